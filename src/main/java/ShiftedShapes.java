@@ -640,6 +640,10 @@ public final class ShiftedShapes {
             return (set >> n & 1) != 0;
         }
 
+        private static boolean hasTwo(int set) {
+            return (set & set - 1) != 0;
+        }
+
         private static int shiftOf(int d, int e) {
             return (d + FAR_TIME) * SHIFTS_A_TIME + e + FAR_PITCH;
         }
@@ -655,8 +659,8 @@ public final class ShiftedShapes {
         private void findLargests() {
             Arrays.fill(largests, 0);
             for (int n = 0; n < MOST_NOTES; n++) {
-                for (int m = 0; m < MOST_NOTES; m++) {
-                    if (has(present, n) && has(present, m)) {
+                for (int m = 0; m < MOST_NOTES && has(present, n); m++) {
+                    if (has(present, m)) {
                         enterPair(n, m);
                     }
                 }
@@ -691,7 +695,7 @@ public final class ShiftedShapes {
         private void findWideShifts() {
             wideCount = 0;
             for (int s = 0; s < ALL_SHIFTS; s++) {
-                if (Integer.bitCount(largests[s]) >= 2) {
+                if (hasTwo(largests[s])) {
                     wideShifts[wideCount] = s;
                     wideCount++;
                 }
