@@ -407,9 +407,8 @@ public final class ShiftedShapes {
         return d >= -FAR_TIME && d <= FAR_TIME && e >= lowest && e <= FAR_PITCH;
     }
 
-    // notes are moved just so in every mode, so e may be below 0 in mode round too
-    private static boolean isMove(int d, int e) {
-        return d >= -FAR_TIME && d <= FAR_TIME && e >= -FAR_PITCH && e <= FAR_PITCH && (d != 0 || e != 0);
+    private boolean isMove(int d, int e) {
+        return isShift(d, e) && (d != 0 || e != 0);
     }
 
     private boolean staysWithin(int n, int d, int e) {

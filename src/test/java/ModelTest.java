@@ -356,7 +356,7 @@ public final class ModelTest {
         }
 
         int shift(int n, int d, int e) {
-            if (!isNote(n) || farOff(d, e) || d == 0 && e == 0) return BAD;
+            if (!isNote(n) || !isShift(d, e) || d == 0 && e == 0) return BAD;
             Note to = new Note(notes.get(n).time + d, notes.get(n).pitch + e);
             if (!inside(to)) return BAD;
             if (notes.contains(to)) return NO;
@@ -367,7 +367,7 @@ public final class ModelTest {
         }
 
         int shiftAll(int d, int e) {
-            if (farOff(d, e) || d == 0 && e == 0) return BAD;
+            if (!isShift(d, e) || d == 0 && e == 0) return BAD;
             ArrayList<Note> moved = new ArrayList<>();
             for (Note note : notes) moved.add(new Note(note.time + d, note.pitch + e));
             for (Note note : moved) if (!inside(note)) return BAD;

@@ -285,11 +285,26 @@ public final class PromiseTest {
 
     private static void shiftIsJustInEachMode() {
         ShiftedShapes x = laid("m1;n3,5;");
-        due("shift(0, 0, -5) in mode round", x.shift(0, 0, -5), 0);
-        due("shift(0, 0, -1) in mode round", x.shift(0, 0, -1), BAD);
+        for (int e = -12; e < 0; e++) {
+            due("shift(0, 0, " + e + ") in mode round", x.shift(0, 0, e), BAD);
+            due("shift(0, 1, " + e + ") in mode round", x.shift(0, 1, e), BAD);
+        }
+        due("shift(0, 0, 0) in mode round", x.shift(0, 0, 0), BAD);
+        due("shift(0, 0, 7) in mode round, beyond", x.shift(0, 0, 7), BAD);
+        due("shift(0, 0, 12) in mode round", x.shift(0, 0, 12), BAD);
+        due("count(2), nothing was shifted", x.count(2), 0);
+        notesAre("as before", x, 3, 5);
+        due("shift(0, -3, 6) in mode round", x.shift(0, -3, 6), 0);
+        due("shift(0, 1, 0) in mode round", x.shift(0, 1, 0), 0);
+        due("shift(0, 0, 1) in mode round, beyond", x.shift(0, 0, 1), BAD);
+        notesAre("shifted", x, 1, 11);
+        x.mode(2);
+        due("shift(0, 0, -11) in mode near", x.shift(0, 0, -11), 0);
+        x.mode(1);
         due("shift(0, 0, 11) in mode round", x.shift(0, 0, 11), 0);
-        due("shift(0, 0, 1) in mode round", x.shift(0, 0, 1), BAD);
-        notesAre("shifted", x, 3, 11);
+        x.mode(0);
+        due("shift(0, 0, -11) in mode just", x.shift(0, 0, -11), 0);
+        notesAre("shifted", x, 1, 0);
         ShiftedShapes near = laid("m2;n3,5;n3,7;");
         due("shift(0, 0, 1) in mode near", near.shift(0, 0, 1), 0);
         due("shift(0, 0, 1) in mode near", near.shift(0, 0, 1), NO);
@@ -314,8 +329,15 @@ public final class PromiseTest {
         x.mode(1);
         due("shiftAll(0, 9) in mode round", x.shiftAll(0, 9), BAD);
         due("shiftAll(0, 8) in mode round", x.shiftAll(0, 8), 4);
-        due("shiftAll(1, -8) in mode round", x.shiftAll(1, -8), 4);
-        notesAre("shifted", x, 1, 0, 2, 1, 5, 2, 6, 3);
+        due("shiftAll(0, 0) in mode round", x.shiftAll(0, 0), BAD);
+        due("shiftAll(1, -8) in mode round", x.shiftAll(1, -8), BAD);
+        due("shiftAll(0, -1) in mode round", x.shiftAll(0, -1), BAD);
+        due("shiftAll(1, 0) in mode round", x.shiftAll(1, 0), 4);
+        notesAre("shifted", x, 1, 8, 2, 9, 5, 10, 6, 11);
+        due("count(2), two acts more and the mode", x.count(2), 5);
+        x.mode(2);
+        due("shiftAll(-1, -8) in mode near", x.shiftAll(-1, -8), 4);
+        notesAre("shifted", x, 0, 0, 1, 1, 4, 2, 5, 3);
     }
 
     private static void mode() {
