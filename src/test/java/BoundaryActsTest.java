@@ -34,6 +34,7 @@ public final class BoundaryActsTest {
         eachActIsUndone();
         refusedActsAreNotUndone();
         whatIsFoundIsUndoneToo();
+        whatIsFoundIsOfThePieceAsItStands();
         CHECKS.end();
     }
 
@@ -429,5 +430,20 @@ public final class BoundaryActsTest {
         x.shiftAll(2, 2);
         due("largest(1, 1) behind shiftAll", x.largest(1, 1), 5);
         due("shapes(0) behind shiftAll", x.shapes(0), 2);
+    }
+
+    private static void whatIsFoundIsOfThePieceAsItStands() {
+        CHECKS.sentence("NO: not as things stand; SHAPES of the piece as it stands");
+        Checks.State four = new Checks.State("n0,0;n1,1;n4,2;n5,3;m0;", x -> x.keep(), x -> x.put(8, 4), x -> x.put(9, 6),
+            x -> Checks.rewrite(x, "n3,3;n6,6;n9,9;n10,0;"));
+        CHECKS.foundAnew(four, "put(9, 5)", x -> x.put(9, 5));
+        CHECKS.foundAnew(four, "take(1)", x -> x.take(1));
+        CHECKS.foundAnew(four, "shift(0, 1, 0)", x -> x.shift(0, 1, 0));
+        CHECKS.foundAnew(four, "shiftAll(1, 1)", x -> x.shiftAll(1, 1));
+        CHECKS.foundAnew(four, "mode(1)", x -> x.mode(1));
+        CHECKS.foundAnew(four, "mode(2)", x -> x.mode(2));
+        CHECKS.foundAnew(four, "undo()", x -> x.undo());
+        CHECKS.foundAnew(four, "back()", x -> x.back());
+        CHECKS.foundAnew(four, "lay()", x -> x.lay());
     }
 }

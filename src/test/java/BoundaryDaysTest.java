@@ -272,5 +272,9 @@ public final class BoundaryDaysTest {
             due("parted(0, 0), call " + i, z.parted(0, 0), NONE);
         }
         due("take(0), call 512", z.take(0), NO);
+        ShiftedShapes fewest = new ShiftedShapes();
+        for (int i = 1; i <= 512; i++) {
+            due("shapes(1), call " + i, fewest.shapes(1), 2);
+        }
     }
 }

@@ -305,15 +305,27 @@ public final class BoundaryPiecesTest {
         CHECKS.sentence("MODE M (0 without; the last one)");
         String[] texts = {"n5,5;", "m0;n5,5;", "m1;n5,5;", "n5,5;m2;", "m1;n5,5;m2;", "m2;n5,5;m1;", "m2;m1;n5,5;m0;"};
         int[] modes = {0, 0, 1, 2, 2, 1, 0};
-        ShiftedShapes x = new ShiftedShapes();
         for (int i = 0; i < texts.length; i++) {
+            ShiftedShapes x = Checks.laid("n6,6;");
             Checks.rewrite(x, texts[i]);
             x.lay();
             due("count(1), " + texts[i] + " laid", x.count(1), modes[i]);
-            if (modes[i] != 1) {
-                x.mode(1);
-            }
+            Checks.rewrite(x, "n5,5;");
+            x.lay();
+            due("count(1), a text without a mode laid behind it", x.count(1), 0);
+            x.mode(2);
+            x.better(0);
+            x.day(0, 1, 0);
+            x.lay();
+            due("count(1), laid behind mode(2)", x.count(1), 0);
         }
+        CHECKS.sentence("nothing changes then: a text that is refused leaves no mode behind it");
+        ShiftedShapes x = Checks.laid("n5,5;");
+        Checks.rewrite(x, "m2;n5,5;n");
+        due("lay()", x.lay(), NO);
+        Checks.rewrite(x, "n5,5;");
+        due("lay()", x.lay(), 1);
+        due("count(1)", x.count(1), 0);
     }
 
     private static void numberedByTimeThenPitch() {

@@ -297,6 +297,14 @@ public final class BoundaryShapesTest {
         shapeIs(x, 0, 1 + 4 + 16, 2, 63, 2);
         shapeIs(x, 1, 3, 3, 63, 2);
         shapeIs(x, 2, 12, 3, 63, 2);
+        // by 1,1 and again by 5,0 notes 0 and 3, by 4,-1 notes 1 and 4, by 9,3 notes 0 1 2
+        ShiftedShapes again = laid("n0,0;n1,1;n5,0;n9,3;n10,4;n14,3;");
+        due("largest(1, 1)", again.largest(1, 1), 9);
+        due("largest(5, 0), the same set", again.largest(5, 0), 9);
+        due("shapes(0), the first of them comes once", again.shapes(0), 3);
+        shapeIs(again, 0, 9, 3, 63, 2);
+        shapeIs(again, 1, 18, 3, 63, 2);
+        shapeIs(again, 2, 7, 2, 63, 2);
         // of one d the lower e is first: 0 1 stand again by 3,-2 as 2 3, and by 3,4 the others as 6 7
         ShiftedShapes y = laid("n0,5;n1,8;n3,3;n4,6;n10,2;n11,0;n13,6;n14,4;");
         due("largest(3, -2)", y.largest(3, -2), 3);
@@ -379,9 +387,11 @@ public final class BoundaryShapesTest {
     private static void placesInOrder() {
         CHECKS.sentence("SHIFTS are in order by d, then by e; 100 times (d and 50), and e and 50");
         ShiftedShapes x = laid(CORNERS);
+        due("place(1, -1)", x.place(1, -1), 2);
         due("place(1, 0)", x.place(1, 0), 5050);
         due("place(1, 1), 19 and 11", x.place(1, 1), 6961);
         due("place(1, 2)", x.place(1, 2), NONE);
+        due("place(2, -1)", x.place(2, -1), 2);
         due("place(2, 0), -19 and -11", x.place(2, 0), 3139);
         due("place(2, 1)", x.place(2, 1), 5050);
         due("place(2, 2)", x.place(2, 2), NONE);
@@ -535,6 +545,12 @@ public final class BoundaryShapesTest {
         ShiftedShapes three = laid("n0,0;n1,0;n2,0;n7,2;n9,3;n11,4;n17,5;n18,8;n19,11;");
         due("shapes(0) of three rows", three.shapes(0), 3);
         due("shapes(1) of three rows", three.shapes(1), 3);
+        // covers of another piece, asked for ahead of these, are not among them
+        ShiftedShapes later = FULL_PIECE.make();
+        due("shapes(1) of 14", later.shapes(1), 1);
+        Checks.rewrite(later, "n0,0;n1,0;n2,0;n7,2;n9,3;n11,4;n17,5;n18,8;n19,11;");
+        later.lay();
+        due("shapes(1) of three rows behind it", later.shapes(1), 3);
         // covers 0 1 2 3 (by 1,0 and 2,1), 1 2 4 (by 1,1), 0 3 6 (by 3,1): the greatest is not among the fewest
         ShiftedShapes trap = laid("n4,3;n5,3;n6,4;n7,4;n7,5;n8,1;n10,5;");
         shapeIs(trap, 0, 1 + 4, 2, 15, 1);

@@ -149,6 +149,44 @@ final class Checks {
         return seen;
     }
 
+    /** What was found of the piece ahead of a change is not told behind it. */
+    void foundAnew(State state, String name, Call change) {
+        ShiftedShapes asked = state.make();
+        found(asked);
+        due(name + " twice alike", change.on(asked), change.on(state.make()));
+        ShiftedShapes first = state.make();
+        change.on(first);
+        answers++;
+        List<Integer> is = found(asked);
+        List<Integer> was = found(first);
+        if (!is.equals(was)) {
+            fail("behind " + name + " there is still what was found ahead of it: " + is + ", not " + was);
+        }
+    }
+
+    private static List<Integer> found(ShiftedShapes x) {
+        ArrayList<Integer> seen = new ArrayList<>();
+        for (int what = 0; what <= 2; what++) {
+            seen.add(x.shapes(what));
+            seen.add(x.best(what));
+            seen.add(x.parting(what));
+            seen.add(x.parted(0, what));
+            seen.add(x.better(what));
+            seen.add(x.link(0, 1, what));
+            seen.add(x.day(3, 5, what));
+        }
+        for (int k = 0; k < 5; k++) {
+            for (int what = 0; what <= 3; what++) {
+                seen.add(x.shape(k, what));
+            }
+        }
+        seen.add(x.largest(1, 1));
+        seen.add(x.meets(0, 1, 1));
+        seen.add(x.place(1, -1));
+        seen.add(x.place(1, 0));
+        return seen;
+    }
+
     private static void addPiece(List<Integer> seen, ShiftedShapes x) {
         int notes = x.count(0);
         seen.add(notes);
