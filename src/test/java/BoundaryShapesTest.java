@@ -551,6 +551,13 @@ public final class BoundaryShapesTest {
         Checks.rewrite(later, "n0,0;n1,0;n2,0;n7,2;n9,3;n11,4;n17,5;n18,8;n19,11;");
         later.lay();
         due("shapes(1) of three rows behind it", later.shapes(1), 3);
+        // covers 6 7 8 (by 1,0), 9 10 11 (by 1,3), 0 to 5 (by 2,1); then a piece of six notes and two covers
+        Checks.rewrite(later, "n0,0;n2,1;n4,2;n6,3;n8,4;n10,5;n12,8;n13,8;n14,8;n16,0;n17,3;n18,6;");
+        later.lay();
+        due("shapes(1) of a long row and two short ones", later.shapes(1), 3);
+        Checks.rewrite(later, "n0,0;n1,0;n2,0;n8,3;n10,4;n12,5;");
+        later.lay();
+        due("shapes(1) of two rows behind it", later.shapes(1), 2);
         // covers 0 1 2 3 (by 1,0 and 2,1), 1 2 4 (by 1,1), 0 3 6 (by 3,1): the greatest is not among the fewest
         ShiftedShapes trap = laid("n4,3;n5,3;n6,4;n7,4;n7,5;n8,1;n10,5;");
         shapeIs(trap, 0, 1 + 4, 2, 15, 1);
